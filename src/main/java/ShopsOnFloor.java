@@ -585,17 +585,12 @@ public final class ShopsOnFloor {
 
         void addShop(int slots) {
             shopCount++;
-            seatFirstFree(shopCount - 1, slots);
+            seatBehind(shopCount - 1, NONE, slots);
         }
 
-        private void seatFirstFree(int shop, int slots) {
-            slotOf.set(shop, NONE);
-            seatNextFree(shop, slots);
-        }
-
-        /** The shop goes to the next slot behind its own that no shop of a lower number has. */
-        private boolean seatNextFree(int shop, int slots) {
-            for (int slot = slotOf.get(shop) + 1; slot < slots; slot++) {
+        /** The shop goes to the next slot behind this one (NONE: of all) that no shop of a lower number has. */
+        private boolean seatBehind(int shop, int last, int slots) {
+            for (int slot = last + 1; slot < slots; slot++) {
                 if (whoIsAt(slot, shop) == NONE) {
                     slotOf.set(shop, slot);
                     return true;
@@ -630,18 +625,18 @@ public final class ShopsOnFloor {
         void begin(int shops, int slots) {
             shopCount = shops;
             for (int shop = 0; shop < shops; shop++) {
-                seatFirstFree(shop, slots);
+                seatBehind(shop, NONE, slots);
             }
         }
 
         /** Becomes the next places in their order; false if these are the last. */
         boolean goOn(int slots) {
             int turn = shopCount - 1;
-            while (turn >= 0 && !seatNextFree(turn, slots)) {
+            while (turn >= 0 && !seatBehind(turn, slotOf.get(turn), slots)) {
                 turn--;
             }
             for (int shop = turn + 1; turn >= 0 && shop < shopCount; shop++) {
-                seatFirstFree(shop, slots);
+                seatBehind(shop, NONE, slots);
             }
             return turn >= 0;
         }
@@ -983,7 +978,7 @@ public final class ShopsOnFloor {
         private final Seats chosen = new Seats();
         /** What the years from one on to the last one cost at least, by the year and its places. */
         private final Row onward = new Row(YEARS * MOST_PLACES);
-        /** The same with the move there from the places told, which are the index. */
+        /** The same of the year last reckoned, with the move there from the places told, which are the index. */
         private final Row ahead = new Row(TOLD_END);
         private final Row chosenTold = new Row(YEARS);
         private int wholePrice = NONE;
@@ -1015,6 +1010,10 @@ public final class ShopsOnFloor {
             }
             for (int year = n - 1; year >= 0; year--) {
                 reckon(year, year == n - 1);
+                if (year > 0) {
+                    stay(year);
+                    letAllMove();
+                }
             }
             wholePrice = NONE;
             for (int year = 0; year < n; year++) {
@@ -1024,9 +1023,6 @@ public final class ShopsOnFloor {
         }
 
         private void reckon(int year, boolean isLast) {
-            if (!isLast) {
-                lookAhead(year + 1);
-            }
             trial.begin(trade.shops(), ground.slots());
             boolean more = true;
             for (int i = 0; more && i < MOST_PLACES; i++) {
@@ -1037,18 +1033,27 @@ public final class ShopsOnFloor {
             }
         }
 
-        /**
-         * Fills ahead from what the year costs onward. A shop that moves costs its weight wherever
-         * it comes from, so the shops can be let move one after the other, over all numbers.
-         */
-        private void lookAhead(int year) {
-            int end = 1;
-            for (int shop = 0; shop < trade.shops(); shop++) {
-                end *= BASE;
+        /** Fills ahead as if no shop moved; numbers that tell no places cost HUGE. */
+        private void stay(int year) {
+            int end = toldEnd();
+            for (int told = 0; told < end; told++) {
+                ahead.set(told, HUGE);
             }
-            stay(year, end);
+            trial.begin(trade.shops(), ground.slots());
+            boolean more = true;
+            for (int i = 0; more && i < MOST_PLACES; i++) {
+                ahead.set(trial.told(), onward.get(year * MOST_PLACES + i));
+                more = trial.goOn(ground.slots());
+            }
+        }
+
+        /**
+         * A shop that moves costs its weight wherever it comes from, so the shops can be let move
+         * one after the other, over all numbers, also those that tell no places.
+         */
+        private void letAllMove() {
             int stride = 1;
-            int blocks = end / BASE;
+            int blocks = toldEnd() / BASE;
             for (int shop = 0; shop < trade.shops(); shop++) {
                 for (int block = 0; block < blocks; block++) {
                     for (int low = 0; low < stride; low++) {
@@ -1060,17 +1065,13 @@ public final class ShopsOnFloor {
             }
         }
 
-        /** Fills ahead with what the year costs onward where no shop moves; numbers that tell no places cost HUGE. */
-        private void stay(int year, int end) {
-            for (int told = 0; told < end; told++) {
-                ahead.set(told, HUGE);
+        /** One above the greatest number that places can be told as: one digit a shop. */
+        private int toldEnd() {
+            int end = 1;
+            for (int shop = 0; shop < trade.shops(); shop++) {
+                end *= BASE;
             }
-            trial.begin(trade.shops(), ground.slots());
-            boolean more = true;
-            for (int i = 0; more && i < MOST_PLACES; i++) {
-                ahead.set(trial.told(), onward.get(year * MOST_PLACES + i));
-                more = trial.goOn(ground.slots());
-            }
+            return end;
         }
 
         /** Lets one shop move between its slots while all others stay. */

@@ -94,6 +94,14 @@ public final class PlacesTest {
         Due.is("three digits are the fourth on slot 0", s.put(told(4, 1, 0)), BAD);
         Due.is("four digits", s.put(told(3, 2, 1, 0)), 1);
         Due.is("places of four", s.places(), told(3, 2, 1, 0));
+        s = rowOf(3, 1);
+        for (int told = -7; told < 0; told++) {
+            Due.is("put of one shop, " + told, s.put(told), BAD);
+        }
+        for (int told = 3; told < 44; told++) {
+            Due.is("put of one shop, " + told, s.put(told), BAD);
+        }
+        Due.is("the shop stays", s.places(), 0);
     }
 
     /** Promise 15. */
