@@ -20,28 +20,12 @@ public final class PlacesTest {
         Due.end();
     }
 
-    /** A row of slots on y = 0: far of two of them is how many numbers they differ, over y = 1 two more. */
-    private static ShopsOnFloor rowOf(int slots, int shops) {
-        ShopsOnFloor s = new ShopsOnFloor();
-        for (int slot = 0; slot < slots; slot++) {
-            s.slot(slot, 0);
-        }
-        for (int shop = 0; shop < shops; shop++) {
-            s.shop();
-        }
-        return s;
-    }
-
     private static int told(int... slots) {
-        int told = 0;
-        for (int i = slots.length - 1; i >= 0; i--) {
-            told = told * 6 + slots[i];
-        }
-        return told;
+        return Floors.told(slots);
     }
 
     private static void noShops() {
-        ShopsOnFloor s = rowOf(3, 0);
+        ShopsOnFloor s = Floors.row(3, 0);
         for (int year = 0; year < 4; year++) {
             Due.is("cost without shops", s.cost(year), 0);
             Due.is("best without shops", s.best(year), 0);
@@ -57,7 +41,7 @@ public final class PlacesTest {
     }
 
     private static void badYears() {
-        ShopsOnFloor s = rowOf(3, 2);
+        ShopsOnFloor s = Floors.row(3, 2);
         s.put(told(2, 0));
         s.load(0, 0, 1, 1);
         int[] years = {-1, 4, Integer.MAX_VALUE, Integer.MIN_VALUE};
@@ -77,7 +61,7 @@ public final class PlacesTest {
 
     /** Promises 13 and 14. */
     private static void puts() {
-        ShopsOnFloor s = rowOf(4, 3);
+        ShopsOnFloor s = Floors.row(4, 3);
         Due.is("first places", s.places(), told(0, 1, 2));
         Due.is("put", s.put(told(3, 1, 0)), 1);
         Due.is("places", s.places(), 3 + 6);
@@ -94,7 +78,7 @@ public final class PlacesTest {
         Due.is("three digits are the fourth on slot 0", s.put(told(4, 1, 0)), BAD);
         Due.is("four digits", s.put(told(3, 2, 1, 0)), 1);
         Due.is("places of four", s.places(), told(3, 2, 1, 0));
-        s = rowOf(3, 1);
+        s = Floors.row(3, 1);
         for (int told = -7; told < 0; told++) {
             Due.is("put of one shop, " + told, s.put(told), BAD);
         }
@@ -106,7 +90,7 @@ public final class PlacesTest {
 
     /** Promise 15. */
     private static void costs() {
-        ShopsOnFloor s = rowOf(6, 3);
+        ShopsOnFloor s = Floors.row(6, 3);
         Due.is("no loads", s.cost(0), 0);
         s.load(0, 0, 1, 3);
         s.load(0, 1, 0, 4);
@@ -137,7 +121,7 @@ public final class PlacesTest {
 
     /** Promises 16 and 17. */
     private static void bests() {
-        ShopsOnFloor s = rowOf(6, 2);
+        ShopsOnFloor s = Floors.row(6, 2);
         Due.is("all are best without loads", s.many(0), 30);
         Due.is("they cost nothing", s.best(0), 0);
         s.load(0, 0, 1, 9);
@@ -152,12 +136,12 @@ public final class PlacesTest {
         Due.is("none are right", s.best(0), NONE);
         Due.is("none", s.many(0), 0);
         Due.is("places are as they were", s.places(), told(0, 1));
-        s = rowOf(6, 5);
+        s = Floors.row(6, 5);
         Due.is("all places of five shops", s.many(0), 720);
     }
 
     private static void bestsAreFirstByShopZero() {
-        ShopsOnFloor s = rowOf(3, 2);
+        ShopsOnFloor s = Floors.row(3, 2);
         s.wish(0, 1, true, 1);
         s.load(0, 0, 1, 1);
         s.put(told(2, 0));
@@ -167,7 +151,7 @@ public final class PlacesTest {
     }
 
     private static void exitsOfBests() {
-        ShopsOnFloor s = rowOf(6, 1);
+        ShopsOnFloor s = Floors.row(6, 1);
         s.exit(4, 1, true);
         s.bound(2);
         Due.is("slots 3, 4 and 5 are near", s.many(0), 3);
@@ -182,7 +166,7 @@ public final class PlacesTest {
 
     /** Promise 18. */
     private static void takes() {
-        ShopsOnFloor s = rowOf(4, 3);
+        ShopsOnFloor s = Floors.row(4, 3);
         s.load(2, 0, 2, 10);
         s.load(2, 2, 1, 1);
         Due.is("take", s.take(2), 11);
@@ -198,7 +182,7 @@ public final class PlacesTest {
 
     /** Promise 19. */
     private static void floors() {
-        ShopsOnFloor s = rowOf(3, 3);
+        ShopsOnFloor s = Floors.row(3, 3);
         Due.is("no loads", s.floor(0), 0);
         s.load(0, 0, 1, 2);
         s.load(0, 1, 2, 9);
@@ -214,9 +198,9 @@ public final class PlacesTest {
         s.wish(0, 1, true, 0);
         s.bound(0);
         Due.is("floor asks for no right places", s.floor(0), 14);
-        s = rowOf(1, 1);
+        s = Floors.row(1, 1);
         Due.is("one slot, one shop", s.floor(0), 0);
-        s = rowOf(6, 2);
+        s = Floors.row(6, 2);
         s.load(3, 1, 0, 7);
         Due.is("the least far of all slots", s.floor(3), 7);
         Due.is("another year", s.floor(0), 0);
@@ -241,7 +225,7 @@ public final class PlacesTest {
 
     /** Promise 20. */
     private static void settleds() {
-        ShopsOnFloor s = rowOf(6, 2);
+        ShopsOnFloor s = Floors.row(6, 2);
         Due.is("nothing costs less than nothing", s.settled(0), 1);
         s.load(0, 0, 1, 1);
         Due.is("side by side", s.settled(0), 1);
@@ -253,7 +237,7 @@ public final class PlacesTest {
         Due.is("not right is not settled", s.settled(0), 0);
         s.wish(1, 0, true, 3);
         Due.is("not settled where none are right", s.settled(0), 0);
-        s = rowOf(3, 3);
+        s = Floors.row(3, 3);
         s.load(1, 0, 1, 1);
         s.put(told(0, 2, 1));
         Due.is("an exchange costs less", s.settled(1), 0);
@@ -263,7 +247,7 @@ public final class PlacesTest {
 
     /** Promise 21. */
     private static void climbs() {
-        ShopsOnFloor s = rowOf(6, 3);
+        ShopsOnFloor s = Floors.row(6, 3);
         s.load(0, 0, 1, 1);
         s.load(0, 1, 2, 1);
         s.put(told(0, 5, 2));
@@ -274,7 +258,7 @@ public final class PlacesTest {
         Due.is("no change", s.climb(0), 0);
         Due.is("places stay", s.places(), told(0, 1, 2));
         Due.is("another year has nothing to climb", s.climb(1), 0);
-        s = rowOf(6, 4);
+        s = Floors.row(6, 4);
         s.load(3, 1, 0, 1);
         s.load(3, 2, 3, 1);
         s.put(told(0, 2, 1, 5));
@@ -285,7 +269,7 @@ public final class PlacesTest {
     }
 
     private static void climbsFromWrongPlaces() {
-        ShopsOnFloor s = rowOf(6, 2);
+        ShopsOnFloor s = Floors.row(6, 2);
         s.load(0, 0, 1, 3);
         s.wish(0, 1, false, 6);
         Due.is("not right", s.cost(0), NONE);
@@ -296,7 +280,7 @@ public final class PlacesTest {
         Due.is("no right places", s.climb(0), 0);
         Due.is("places stay", s.places(), told(0, 4));
         Due.is("still not right", s.cost(0), NONE);
-        s = rowOf(6, 3);
+        s = Floors.row(6, 3);
         s.wish(0, 1, true, 1);
         s.wish(2, 1, true, 1);
         s.put(told(5, 3, 0));
@@ -306,7 +290,7 @@ public final class PlacesTest {
     }
 
     private static void climbsTakeTheFirst() {
-        ShopsOnFloor s = rowOf(6, 2);
+        ShopsOnFloor s = Floors.row(6, 2);
         s.load(0, 0, 1, 1);
         s.put(told(2, 4));
         Due.is("one change", s.climb(0), 1);

@@ -17,24 +17,8 @@ public final class PlansTest {
         Due.end();
     }
 
-    private static ShopsOnFloor rowOf(int slots, int... weights) {
-        ShopsOnFloor s = new ShopsOnFloor();
-        for (int slot = 0; slot < slots; slot++) {
-            s.slot(slot, 0);
-        }
-        for (int shop = 0; shop < weights.length; shop++) {
-            s.shop();
-            s.weight(shop, weights[shop]);
-        }
-        return s;
-    }
-
     private static int told(int... slots) {
-        int told = 0;
-        for (int i = slots.length - 1; i >= 0; i--) {
-            told = told * 6 + slots[i];
-        }
-        return told;
+        return Floors.told(slots);
     }
 
     /** Every step of the move, and none behind the last. */
@@ -48,7 +32,7 @@ public final class PlansTest {
 
     /** Promise 22. */
     private static void moves() {
-        ShopsOnFloor s = rowOf(4, 2, 5);
+        ShopsOnFloor s = Floors.weighed(4, 2, 5);
         Due.is("where they are", s.move(told(0, 1)), 0);
         Due.is("one step", s.move(told(3, 1)), 2);
         Due.is("one step of the other", s.move(told(0, 2)), 5);
@@ -65,7 +49,7 @@ public final class PlansTest {
     }
 
     private static void movesInRings() {
-        ShopsOnFloor s = rowOf(6, 3, 2, 7, 4, 9);
+        ShopsOnFloor s = Floors.weighed(6, 3, 2, 7, 4, 9);
         Due.is("a ring of two: the lighter goes aside", s.move(told(1, 0, 2, 3, 4)), 3 + 2 + 2);
         Due.is("a ring of three", s.move(told(0, 1, 3, 4, 2)), 7 + 4 + 9 + 4);
         Due.is("two rings", s.move(told(1, 0, 3, 4, 2)), 25 + 2 + 4);
@@ -76,7 +60,7 @@ public final class PlansTest {
     }
 
     private static void movesWithoutFreeSlots() {
-        ShopsOnFloor s = rowOf(3, 1, 1, 1);
+        ShopsOnFloor s = Floors.weighed(3, 1, 1, 1);
         Due.is("where they are", s.move(told(0, 1, 2)), 0);
         Due.is("no free slot", s.move(told(0, 2, 1)), NONE);
         Due.is("no free slot", s.step(told(0, 2, 1), 0), NONE);
@@ -86,7 +70,7 @@ public final class PlansTest {
 
     /** Promise 23. */
     private static void steps() {
-        ShopsOnFloor s = rowOf(6, 1, 1, 1, 1);
+        ShopsOnFloor s = Floors.weighed(6, 1, 1, 1, 1);
         stepsAre(s, told(0, 1, 2, 3));
         stepsAre(s, told(0, 1, 5, 3), 25);
         stepsAre(s, told(5, 1, 4, 3), 5, 24);
@@ -98,32 +82,32 @@ public final class PlansTest {
         stepsAre(s, told(1, 0, 2, 3), 14, 1, 10);
         Due.is("the places stay", s.places(), told(0, 1, 2, 3));
         stepsAre(new ShopsOnFloor(), 0);
-        s = rowOf(6, 1, 1, 1, 1, 1);
+        s = Floors.weighed(6, 1, 1, 1, 1, 1);
         stepsAre(s, told(1, 0, 3, 4, 2), 5, 10, 1, 25, 42, 34, 23);
     }
 
     private static void badAims() {
-        ShopsOnFloor s = rowOf(4, 1, 1, 1);
+        ShopsOnFloor s = Floors.weighed(4, 1, 1, 1);
         int[] bad = {-1, Integer.MIN_VALUE, Integer.MAX_VALUE, told(0, 0, 1), told(0, 1, 4), told(0, 1, 2) + 216};
         for (int aim : bad) {
             Due.is("move " + aim, s.move(aim), BAD);
             Due.is("step " + aim, s.step(aim, 0), BAD);
         }
         Due.is("step -1", s.step(told(0, 1, 3), -1), BAD);
-        Due.is("step of a full floor, -1", rowOf(1, 1).step(0, Integer.MIN_VALUE), BAD);
+        Due.is("step of a full floor, -1", Floors.weighed(1, 1).step(0, Integer.MIN_VALUE), BAD);
         Due.is("the places stay", s.places(), told(0, 1, 2));
     }
 
     /** Promises 24 and 25: two shops near each other, then far, then near. */
     private static void plans() {
-        ShopsOnFloor s = rowOf(6, 10, 6);
+        ShopsOnFloor s = Floors.weighed(6, 10, 6);
         s.load(0, 0, 1, 1);
         s.load(1, 0, 1, 9);
         Due.is("one year", s.plan(1), 1);
         Due.is("its places", s.planned(1, 0), told(0, 1));
         Due.is("two years", s.plan(2), 10);
         Due.is("they stay", s.planned(2, 1), told(0, 1));
-        s = rowOf(4, 10, 6, 8);
+        s = Floors.weighed(4, 10, 6, 8);
         s.load(0, 0, 1, 30);
         s.load(0, 1, 2, 30);
         s.load(1, 1, 0, 30);
@@ -145,7 +129,7 @@ public final class PlansTest {
     }
 
     private static void plansTakeTheFirst() {
-        ShopsOnFloor s = rowOf(3, 1);
+        ShopsOnFloor s = Floors.weighed(3, 1);
         s.put(2);
         for (int n = 1; n <= 4; n++) {
             Due.is("nothing costs", s.plan(n), 0);
@@ -153,7 +137,7 @@ public final class PlansTest {
                 Due.is("slot 0 is first", s.planned(n, y), 0);
             }
         }
-        s = rowOf(4, 1, 1);
+        s = Floors.weighed(4, 1, 1);
         s.load(1, 0, 1, 50);
         s.wish(0, 1, false, 1);
         Due.is("the first by shop 0", s.planned(2, 0), told(0, 1));
@@ -166,7 +150,7 @@ public final class PlansTest {
     }
 
     private static void plansWithoutRightPlaces() {
-        ShopsOnFloor s = rowOf(3, 1, 1);
+        ShopsOnFloor s = Floors.weighed(3, 1, 1);
         s.wish(0, 1, true, 0);
         for (int n = 1; n <= 4; n++) {
             Due.is("no plan", s.plan(n), NONE);
@@ -190,7 +174,7 @@ public final class PlansTest {
 
     /** Whatever a plan hangs on may change between two calls. */
     private static void plansForgetNothing() {
-        ShopsOnFloor s = rowOf(3, 1, 1);
+        ShopsOnFloor s = Floors.weighed(3, 1, 1);
         s.load(0, 0, 1, 2);
         Due.is("plan", s.plan(1), 2);
         s.load(0, 0, 1, 3);
@@ -227,7 +211,7 @@ public final class PlansTest {
     }
 
     private static void badPlans() {
-        ShopsOnFloor s = rowOf(3, 1, 1);
+        ShopsOnFloor s = Floors.weighed(3, 1, 1);
         int[] bad = {0, 5, -1, Integer.MAX_VALUE, Integer.MIN_VALUE};
         for (int n : bad) {
             Due.is("plan " + n, s.plan(n), BAD);
@@ -246,7 +230,7 @@ public final class PlansTest {
 
     /** Promise 26. */
     private static void counts() {
-        ShopsOnFloor s = rowOf(5, 1, 1, 1);
+        ShopsOnFloor s = Floors.weighed(5, 1, 1, 1);
         s.wish(0, 1, true, 5);
         s.wish(0, 2, true, 5);
         s.column(0, 3, true);

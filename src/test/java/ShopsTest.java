@@ -12,21 +12,9 @@ public final class ShopsTest {
         Due.end();
     }
 
-    /** Slots in row 0 on x = 0, 2, 4 and in row 2 likewise, as many as asked. */
-    private static ShopsOnFloor floorOf(int slots, int shops) {
-        ShopsOnFloor s = new ShopsOnFloor();
-        for (int slot = 0; slot < slots; slot++) {
-            s.slot(slot % 3 * 2, slot / 3 * 2);
-        }
-        for (int shop = 0; shop < shops; shop++) {
-            s.shop();
-        }
-        return s;
-    }
-
     /** Promise 8. */
     private static void shops() {
-        ShopsOnFloor s = floorOf(0, 0);
+        ShopsOnFloor s = Floors.spread(0, 0);
         Due.is("no slot for a shop", s.shop(), NOT);
         s.slot(0, 0);
         Due.is("first shop", s.shop(), 0);
@@ -40,13 +28,13 @@ public final class ShopsTest {
         s.put(2);
         Due.is("third shop", s.shop(), 2);
         Due.is("it is on the slot between", s.places(), 2 + 36);
-        s = floorOf(5, 5);
+        s = Floors.spread(5, 5);
         Due.is("FULL is ahead of NOT", s.shop(), FULL);
         s.slot(5, 5);
         Due.is("sixth shop", s.shop(), FULL);
         Due.is("five shops", s.count(1), 5);
         Due.is("all on their slots", s.places(), 6 + 2 * 36 + 3 * 216 + 4 * 1296);
-        s = floorOf(6, 4);
+        s = Floors.spread(6, 4);
         s.put(5 + 6 * 4 + 36 * 3 + 216);
         Due.is("fifth shop", s.shop(), 4);
         Due.is("the fifth is on slot 0", s.places(), 5 + 6 * 4 + 36 * 3 + 216);
@@ -56,7 +44,7 @@ public final class ShopsTest {
 
     /** Promise 9. */
     private static void loads() {
-        ShopsOnFloor s = floorOf(3, 2);
+        ShopsOnFloor s = Floors.spread(3, 2);
         int[][] bad = {{-1, 0, 1, 1}, {4, 0, 1, 1}, {0, -1, 1, 1}, {0, 2, 1, 1}, {0, 0, -1, 1}, {0, 0, 2, 1},
             {0, 1, 1, 1}, {0, 0, 1, -1}, {0, 0, 1, 100}, {Integer.MAX_VALUE, 0, 1, 1}, {0, 0, 1, Integer.MIN_VALUE}};
         for (int[] b : bad) {
@@ -80,7 +68,7 @@ public final class ShopsTest {
 
     /** Promise 10. */
     private static void weights() {
-        ShopsOnFloor s = floorOf(3, 2);
+        ShopsOnFloor s = Floors.spread(3, 2);
         Due.is("weight of no shop", s.weight(2, 5), BAD);
         Due.is("weight of no shop", s.weight(-1, 5), BAD);
         Due.is("weight below", s.weight(0, 0), BAD);
@@ -95,7 +83,7 @@ public final class ShopsTest {
 
     /** Promise 11. */
     private static void wishes() {
-        ShopsOnFloor s = floorOf(3, 2);
+        ShopsOnFloor s = Floors.spread(3, 2);
         Due.is("wish of no shop", s.wish(0, 2, true, 1), BAD);
         Due.is("wish of no shop", s.wish(2, 0, true, 1), BAD);
         Due.is("wish of no shop", s.wish(-1, 0, false, 1), BAD);
@@ -119,16 +107,16 @@ public final class ShopsTest {
         int[][] nearDue = {{1, NONE}, {2, 0}, {3, 0}, {20, 0}, {0, NONE}};
         int[][] apartDue = {{1, 0}, {2, 0}, {3, NONE}, {20, NONE}, {0, 0}};
         for (int[] due : nearDue) {
-            ShopsOnFloor s = floorOf(2, 2);
+            ShopsOnFloor s = Floors.spread(2, 2);
             s.wish(1, 0, true, due[0]);
             Due.is("2 apart, near " + due[0], s.cost(2), due[1]);
         }
         for (int[] due : apartDue) {
-            ShopsOnFloor s = floorOf(2, 2);
+            ShopsOnFloor s = Floors.spread(2, 2);
             s.wish(1, 0, false, due[0]);
             Due.is("2 apart, apart " + due[0], s.cost(2), due[1]);
         }
-        ShopsOnFloor s = floorOf(2, 2);
+        ShopsOnFloor s = Floors.spread(2, 2);
         s.column(1, 0, true);
         s.column(0, 1, true);
         s.wish(0, 1, false, 20);
@@ -139,7 +127,7 @@ public final class ShopsTest {
 
     /** Promise 12. */
     private static void unwishes() {
-        ShopsOnFloor s = floorOf(4, 4);
+        ShopsOnFloor s = Floors.spread(4, 4);
         Due.is("no wish", s.unwish(0), BAD);
         Due.is("no wish", s.unwish(-1), BAD);
         s.wish(0, 1, true, 2);
