@@ -610,12 +610,13 @@ public final class ShopsOnFloor {
         /** Becomes the places told; false, and then half read, where the number tells none. */
         boolean read(int told, int shops, int slots) {
             int rest = told;
-            for (shopCount = 0; shopCount < shops; shopCount++) {
+            shopCount = shops;
+            for (int shop = 0; shop < shops; shop++) {
                 int slot = rest % BASE;
-                if (slot < 0 || slot >= slots || whoIsAt(slot, shopCount) != NONE) {
+                if (slot < 0 || slot >= slots || whoIsAt(slot, shop) != NONE) {
                     return false;
                 }
-                slotOf.set(shopCount, slot);
+                slotOf.set(shop, slot);
                 rest /= BASE;
             }
             return rest == 0;

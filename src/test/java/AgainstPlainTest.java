@@ -40,7 +40,8 @@ public final class AgainstPlainTest {
         wildness = 10 + draw(60);
         mostLoad = draw(3) == 0 ? 99 : 2 + draw(8);
         furnish(number);
-        while (calls < CALLS && Due.wrongs() == 0) {
+        // A call may be followed by a look at the places, and no more than CALLS are promised.
+        while (calls + 2 <= CALLS && Due.wrongs() == 0) {
             where = "run " + number + ", call " + calls + ": ";
             call();
         }

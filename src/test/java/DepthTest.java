@@ -11,17 +11,25 @@ import java.util.regex.Matcher;
 import java.util.regex.Pattern;
 import java.util.spi.ToolProvider;
 
-/** No call goes more than eight deep, and none calls itself: read from the compiled class, by the JDK's own javap. */
+/**
+ * Read from the compiled class, by the JDK's own javap: no call goes more than eight deep, none calls itself, and
+ * of Java's library the class calls but what it may.
+ */
 public final class DepthTest {
     private static final int MOST_DEEP = 8;
     private static final Pattern CLASS = Pattern.compile("^[\\w ]*class (\\S+) \\{$");
     private static final Pattern METHOD = Pattern.compile("^  \\S.*?([\\w$]+)\\(.*\\);$");
     private static final Pattern CALL = Pattern.compile("// Method (?:([\\w$]+)\\.)?\"?([\\w$<>]+)\"?:");
+    private static final Pattern LIBRARY = Pattern.compile("// (?:Interface)?Method (java\\S+?):");
+    /** What an object's making calls, and the one function over numbers. */
+    private static final List<String> MAY_BE_CALLED = List.of("java/lang/Object.\"<init>\"", "java/lang/Math.min");
 
     private static final Map<String, TreeSet<String>> CALLS = new HashMap<>();
 
     public static void main(String[] args) {
-        read(unfolded());
+        String text = unfolded();
+        read(text);
+        library(text);
         int deepest = 0;
         for (Method method : ShopsOnFloor.class.getDeclaredMethods()) {
             if (Modifier.isPublic(method.getModifiers())) {
@@ -44,6 +52,16 @@ public final class DepthTest {
         ToolProvider javap = ToolProvider.findFirst("javap").orElseThrow();
         Due.is("javap", javap.run(new PrintWriter(text), new PrintWriter(System.err), words.toArray(new String[0])), 0);
         return text.toString();
+    }
+
+    private static void library(String text) {
+        Matcher call = LIBRARY.matcher(text);
+        int calls = 0;
+        while (call.find()) {
+            calls++;
+            Due.is("may be called: " + call.group(1), MAY_BE_CALLED.contains(call.group(1)) ? 1 : 0, 1);
+        }
+        Due.is("calls of the library were found", calls > 0 ? 1 : 0, 1);
     }
 
     private static void read(String text) {

@@ -20,8 +20,10 @@ public final class LanguageTest {
     public static void main(String[] args) throws IOException {
         face();
         classesInside();
-        String code = withoutComments(Files.readString(Path.of("src/main/java/ShopsOnFloor.java")));
-        words(code);
+        String text = Files.readString(Path.of("src/main/java/ShopsOnFloor.java"));
+        signs(text);
+        lengths(text);
+        words(withoutComments(text));
         callsMakeNothing();
         Due.end();
     }
@@ -65,8 +67,55 @@ public final class LanguageTest {
                 boolean isPrivate = Modifier.isPrivate(method.getModifiers());
                 Due.is(one.getName() + "." + method.getName() + " bears a public name", isOfFace && isPrivate ? 1 : 0, 0);
             }
-            Due.is("fields of " + one.getName(), one.getDeclaredFields().length <= 20 ? 1 : 0, 1);
+            members(one);
         }
+        members(ShopsOnFloor.class);
+    }
+
+    private static void members(Class<?> one) {
+        int fields = 0;
+        for (Field field : one.getDeclaredFields()) {
+            boolean isStatic = Modifier.isStatic(field.getModifiers());
+            boolean isFinal = Modifier.isFinal(field.getModifiers());
+            Due.is(field + " is no state of all objects", isStatic && !isFinal ? 1 : 0, 0);
+            Due.is(field + " is of numbers or of a class inside", isOfNumbersOrInside(field.getType()) ? 1 : 0, 1);
+            fields += isStatic ? 0 : 1;
+        }
+        Due.is("fields of " + one.getName(), fields <= 20 ? 1 : 0, 1);
+        for (Method method : one.getDeclaredMethods()) {
+            Due.is("parameters of " + method, method.getParameterCount() <= 7 ? 1 : 0, 1);
+        }
+    }
+
+    private static boolean isOfNumbersOrInside(Class<?> type) {
+        return type == int.class || type == boolean.class || type == int[].class
+                || Arrays.asList(ShopsOnFloor.class.getDeclaredClasses()).contains(type);
+    }
+
+    private static void signs(String text) {
+        for (int i = 0; i < text.length(); i++) {
+            char sign = text.charAt(i);
+            if (sign != '\n' && (sign < 32 || sign > 126)) {
+                Due.is("the sign at " + i, sign, ' ');
+            }
+        }
+    }
+
+    /** A method begins on a line that ends it with a brace, and ends with a brace as far to the right as it begins. */
+    private static void lengths(String text) {
+        String[] lines = text.split("\n");
+        int methods = 0;
+        for (int first = 0; first < lines.length; first++) {
+            String line = lines[first];
+            String right = line.substring(0, line.length() - line.stripLeading().length());
+            boolean isMember = right.length() == 4 || right.length() == 8;
+            if (isMember && line.matches("\\s+(public |private |static )*[\\w\\[\\]]+( \\w+)?\\([^()]*\\) \\{")) {
+                int last = Arrays.asList(lines).subList(first, lines.length).indexOf(right + "}");
+                Due.is("lines of " + line.strip() + " " + last, last > 0 && last < 60 ? 1 : 0, 1);
+                methods++;
+            }
+        }
+        Due.is("methods were found", methods > 80 ? 1 : 0, 1);
     }
 
     private static String withoutComments(String text) {

@@ -2,7 +2,7 @@ import java.util.List;
 import java.util.function.Supplier;
 import java.util.function.ToIntFunction;
 
-/** A call that is refused: what it answers, and that nothing shows that it was made. */
+/** A call that is refused, or that only asks: what it answers, and that nothing shows that it was made. */
 final class Refused {
     /** An object is promised for so many calls. */
     private static final int MOST_CALLS = 512;
